@@ -439,9 +439,14 @@ public final class Ringresonance {
             boolean ring = layout.kinds[part] == RING;
             int center = center(part);
             for (int channel = 0; channel < CHANNELS; channel++) {
-                int share = ring ? ringShare(channel - center) : layout.seconds[part];
                 long first = take(part, 0, channel);
                 long second = take(part, 1, channel);
+                crossed[part * CHANNELS + channel] = 0;
+                // Most channels are dark in most ticks, and a dark one costs less this way.
+                if (first == 0 && second == 0) {
+                    continue;
+                }
+                int share = ring ? ringShare(channel - center) : layout.seconds[part];
                 // Each input is rounded for itself.
                 long over = first * share / HUNDREDTHS;
                 long back = second * share / HUNDREDTHS;
@@ -486,6 +491,9 @@ public final class Ringresonance {
 
         private long take(int part, int in, int channel) {
             int at = portOf(part, in) * CHANNELS + channel;
+            if (at < 0 || at >= coming.length) {
+                return 0;
+            }
             long photons = coming[at];
             coming[at] = 0;
             return photons;

@@ -133,9 +133,18 @@ public final class Promise06LockTest {
         chip.run(1);
         Check.due("direction 1 and 0 ahead, anew", heat(chip), 3);
         chip.run(6);
+        Check.due("heat of 7 ticks", heat(chip), 9);
         Check.due("7 dark ticks since", chip.ofPart(RING, 4), 3);
         chip.run(1);
         Check.due("8 dark ticks since", chip.ofPart(RING, 4), -1);
+        Ringresonance fading = lit(0);
+        fading.run(2);
+        fading.lock(RING, 3);
+        fading.set(LASER, 50);
+        fading.run(1);
+        fading.lock(RING, 3);
+        fading.run(1);
+        Check.due("45 is not fewer than 0, though 90 were given over ahead", heat(fading), 2);
     }
 
     private static void letGo() {

@@ -86,6 +86,17 @@ public final class Promise10TrialTest {
             int share = shares[Math.floorMod(offset, 8)];
             Check.due("offset " + offset, chip.trial(2, offset, 10), 8 * share);
         }
+        // A center of 5 reaches the channel 7 by an offset of 2 more, not of 2 less.
+        Ringresonance below = new Ringresonance();
+        below.part(Ringresonance.RING, 0, 0, 5, 0);
+        below.part(Ringresonance.LASER, 0, 0, 7, 100);
+        below.part(Ringresonance.DETECTOR, 0, 0, 0, 0);
+        below.lead(1, 0, 0, 1);
+        below.lead(0, 0, 2, 0);
+        Check.due("offset 2 more", below.trial(2, 2, 10), 8 * 90);
+        Check.due("offset 2 less", below.trial(2, -2, 10), 0);
+        below.set(0, 8);
+        Check.due("the part 0 is as warm as its target, too", below.trial(2, 0, 10), 8 * 90);
     }
 
     private static void tickZeroAndNoLocks() {
