@@ -4,14 +4,28 @@ final class Check {
         long answer();
     }
 
+    interface Maker {
+        Ringresonance make();
+    }
+
+    interface Asked {
+        long answer(Ringresonance chip);
+    }
+
     static final Class<? extends RuntimeException> INDEX = IndexOutOfBoundsException.class;
     static final Class<? extends RuntimeException> ARGUMENT = IllegalArgumentException.class;
     static final Class<? extends RuntimeException> STATE = IllegalStateException.class;
 
+    private static String sentence = "";
     private static int wrong = 0;
     private static int checked = 0;
 
     private Check() {
+    }
+
+    /** The words of the document to which the checks hold that follow. */
+    static void sentence(String words) {
+        sentence = words;
     }
 
     static void due(String call, long got, long want) {
@@ -39,6 +53,51 @@ final class Check {
         String before = tells(chip, parts);
         refuses(call, want, made);
         same("after " + call + " the chip", tells(chip, parts), before);
+    }
+
+    /** A chip that refused the call must go on just as one that never heard it. */
+    static void refusesWholly(
+            Maker maker, int parts, String call, Class<? extends RuntimeException> want, Asked made) {
+        Ringresonance heard = maker.make();
+        Ringresonance other = maker.make();
+        refuses(call, want, () -> made.answer(heard));
+        goOnAlike(heard, other, parts, call);
+    }
+
+    /** A chip that was asked must go on just as one that was not. */
+    static void asksOnly(Maker maker, int parts, String call, Asked made) {
+        Ringresonance asked = maker.make();
+        Ringresonance other = maker.make();
+        made.answer(asked);
+        goOnAlike(asked, other, parts, call);
+    }
+
+    private static void goOnAlike(Ringresonance one, Ringresonance other, int parts, String call) {
+        same("after " + call + " the chip", tells(one, parts), tells(other, parts));
+        same("after " + call + " run(9)", outcome(() -> one.run(9)), outcome(() -> other.run(9)));
+        same("after " + call + " and run(9) the chip", tells(one, parts), tells(other, parts));
+        due("after " + call + " spacing(0)", one.spacing(0), other.spacing(0));
+        same("after " + call + " a next part", outcome(() -> one.part(5, 0, 0, 0, 0)),
+                outcome(() -> other.part(5, 0, 0, 0, 0)));
+    }
+
+    /**
+     * An argument must be taken at its least and its most, and refused one below and one above, and
+     * far away.
+     */
+    static void edges(
+            String call, long least, long most, Class<? extends RuntimeException> want, EdgeCall made) {
+        for (long good : new long[] {least, most}) {
+            String got = outcome(() -> made.answer(good));
+            same(call + " with " + good + " is taken: " + got, got.startsWith("throws") ? "no" : "yes", "yes");
+        }
+        for (long bad : new long[] {least - 1, most + 1, Integer.MIN_VALUE, Integer.MAX_VALUE}) {
+            refuses(call + " with " + bad, want, () -> made.answer(bad));
+        }
+    }
+
+    interface EdgeCall {
+        long answer(long argument);
     }
 
     static String outcome(Call made) {
@@ -71,7 +130,7 @@ final class Check {
     private static void complain(String text) {
         wrong++;
         if (wrong <= 40) {
-            System.out.println("  " + text);
+            System.out.println("  " + (sentence.isEmpty() ? "" : "\"" + sentence + "\": ") + text);
         }
     }
 

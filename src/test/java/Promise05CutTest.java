@@ -16,7 +16,7 @@ public final class Promise05CutTest {
             }
         }
         for (int bad : new int[] {Integer.MIN_VALUE, -1, 6, 16, Integer.MAX_VALUE}) {
-            Check.refusesUnchanged(chip, 6, "cut(" + bad + ", 0)", Check.INDEX, () -> chip.cut(bad, 0));
+            Check.refusesWholly(Chips::each, 6, "cut(" + bad + ", 0)", Check.INDEX, x -> x.cut(bad, 0));
         }
         Check.due("lead", chip.lead(2, 1, 5, 0), -1);
         Check.due("cut its other output", chip.cut(2, 0), -1);

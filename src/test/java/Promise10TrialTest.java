@@ -134,7 +134,7 @@ public final class Promise10TrialTest {
         Ringresonance twin = filter(16);
         chip.lock(1, 6);
         twin.lock(1, 6);
-        for (int i = 0; i < 12; i++) {
+        for (int i = 0; i < 5; i++) {
             chip.run(3);
             twin.run(3);
             String before = Check.tells(chip, 3);

@@ -3,10 +3,7 @@ public final class Promise13ComesTest {
     private static final int[] INPUTS = {0, 1, 2, 2, 1, 1};
 
     public static void main(String[] args) {
-        Ringresonance chip = new Ringresonance();
-        for (int kind = 0; kind < 6; kind++) {
-            chip.part(kind, kind, 0, kind == Ringresonance.GUIDE ? 2 : 0, 0);
-        }
+        Ringresonance chip = fresh();
         for (int kind = 0; kind < 6; kind++) {
             for (int in : new int[] {Integer.MIN_VALUE, -1, 0, 1, 2, Integer.MAX_VALUE}) {
                 int part = kind;
@@ -24,8 +21,16 @@ public final class Promise13ComesTest {
         for (int bad : new int[] {-1, 8, Integer.MIN_VALUE, Integer.MAX_VALUE}) {
             Check.refusesUnchanged(chip, 6, "channel " + bad, Check.ARGUMENT, () -> chip.comes(2, 1, bad));
         }
-        answers(chip);
+        answers(fresh());
         Check.end();
+    }
+
+    private static Ringresonance fresh() {
+        Ringresonance chip = new Ringresonance();
+        for (int kind = 0; kind < 6; kind++) {
+            chip.part(kind, kind, 0, kind == Ringresonance.GUIDE ? 2 : 0, 0);
+        }
+        return chip;
     }
 
     private static void answers(Ringresonance chip) {
