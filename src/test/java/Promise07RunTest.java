@@ -10,6 +10,8 @@ public final class Promise07RunTest {
         couplerRounds();
         ring();
         ringTurnsWithItsWarmth();
+        centerBySixteens();
+        huntsBehindWarmths();
         switches();
         loops();
         warmth();
@@ -172,6 +174,35 @@ public final class Promise07RunTest {
         Check.due("center", chip.ofPart(1, 2), 5);
         chip.run(1);
         Check.due("away from the center", chip.comes(2, 0, 3), 0);
+    }
+
+    private static void centerBySixteens() {
+        Ringresonance chip = new Ringresonance();
+        chip.part(Ringresonance.RING, 0, 0, 7, 0);
+        for (int heat = 1; heat <= 33; heat++) {
+            chip.set(0, heat);
+            chip.run(4);
+            Check.due("warmth of the heat " + heat, chip.ofPart(0, 3), 4 * heat);
+            Check.due("center of the heat " + heat, chip.ofPart(0, 2), (7 + heat / 4) % 8);
+        }
+    }
+
+    private static void huntsBehindWarmths() {
+        Ringresonance chip = new Ringresonance();
+        chip.part(Ringresonance.RING, 0, 0, 0, 0);
+        chip.lock(0, 0);
+        // Heats by ticks: 1, 2, 3; each tells on the warmth of the tick behind it alone.
+        int[] warmths = {0, 1, 2};
+        for (int tick = 0; tick < warmths.length; tick++) {
+            chip.run(1);
+            Check.due("heat behind the tick " + tick, chip.ofPart(0, 1), tick + 1);
+            Check.due("warmth behind the tick " + tick, chip.ofPart(0, 3), warmths[tick]);
+        }
+        Ringresonance atOnce = new Ringresonance();
+        atOnce.part(Ringresonance.RING, 0, 0, 0, 0);
+        atOnce.lock(0, 0);
+        atOnce.run(3);
+        Check.due("three ticks in one run", atOnce.ofPart(0, 3), 2);
     }
 
     private static void switches() {
